@@ -68,12 +68,15 @@ public final class PromisesTest {
         due(what, want ? 1 : 0, got ? 1 : 0);
     }
 
+    /** What the library throws by itself is no answer, even if it is of the kind that is due. */
     private static void fails(String what, Class<?> kind, Runnable call) {
         Class<?> got = null;
         try {
             call.run();
         } catch (RuntimeException e) {
             got = e.getClass();
+            due(what + ": thrown by the class itself", true,
+                    e.getStackTrace()[0].getClassName().startsWith("Delaypouch"));
         }
         if (got != kind) {
             wrong++;
@@ -99,7 +102,7 @@ public final class PromisesTest {
                 s.append(',').append(x.copies(n, b)).append(x.knows(n, b) ? 'k' : '-');
             }
             for (int d = 0; d < 8; d++) {
-                s.append(',').append(x.arrival(n, d));
+                s.append(',').append(x.arrival(n, d)).append(',').append(x.arrivalByRounds(n, d));
             }
         }
         return s.toString();
@@ -754,7 +757,7 @@ public final class PromisesTest {
     private static void heldAt() {
         Delaypouch x = new Delaypouch();
         x.setBuffer(4, 8);
-        noNode("heldAt", n -> x.heldAt(n, 0));
+        noNode("heldAt, no bundles", n -> x.heldAt(n, 0));
         fails("heldAt of nothing", INDEX, () -> x.heldAt(4, 0));
         x.send(4, 0, 0, 1, 50);
         x.send(4, 0, 2, 1, 90);
@@ -768,6 +771,8 @@ public final class PromisesTest {
         for (int i = 0; i < order.length; i++) {
             due("heldAt " + i, order[i], x.heldAt(4, i));
         }
+        noNode("heldAt", n -> x.heldAt(n, 0));
+        noNode("heldAt, no place", n -> x.heldAt(n, -1));
         fails("heldAt too many", INDEX, () -> x.heldAt(4, 6));
         fails("heldAt -1", INDEX, () -> x.heldAt(4, -1));
         fails("heldAt far", INDEX, () -> x.heldAt(4, Integer.MAX_VALUE));
@@ -809,8 +814,11 @@ public final class PromisesTest {
     // ---- promises 20 to 22
 
     private static void arrives(String what, Delaypouch x, int node, int destination, int want) {
-        due(what, want, x.arrival(node, destination));
+        // The way back first: what an earlier question left behind must not matter.
+        x.arrival(destination, node);
         due(what + " by rounds", want, x.arrivalByRounds(node, destination));
+        x.arrivalByRounds(destination, node);
+        due(what, want, x.arrival(node, destination));
     }
 
     private static void arrival() {
@@ -911,6 +919,7 @@ public final class PromisesTest {
         Delaypouch y = new Delaypouch();
         y.send(0, 7, 0, 1, 20);
         y.addContact(0, 7, 5, 6);
+        due("promised from node 0", 5, y.promised(0));
         y.meet(0, 7, 1);
         due("promised when nobody has it", -1, y.promised(0));
     }
